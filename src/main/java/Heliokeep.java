@@ -80,7 +80,8 @@ public final class Heliokeep {
         return before;
     }
 
-    public int aim(int mirror, int aim) throws IndexOutOfBoundsException, IllegalArgumentException, IllegalStateException {
+    public int aim(int mirror, int aim)
+            throws IndexOutOfBoundsException, IllegalArgumentException, IllegalStateException {
         Mirror told = theMirror(mirror);
         needWithin(aim, STOWED, PANELS - 1);
         if (told.broken) throw new IllegalStateException("the mirror is broken");
@@ -347,10 +348,10 @@ public final class Heliokeep {
     private boolean wouldTrip(int place, int aside, int tenth) {
         light.shine(place, -tenth);
         light.shine(place + aside, tenth);
-        boolean trips = light.isAbove(bounds);
+        boolean isAbove = light.isAbove(bounds);
         light.shine(place + aside, -tenth);
         light.shine(place, tenth);
-        return trips;
+        return isAbove;
     }
 
     private void openSearch(int set) {
@@ -578,7 +579,8 @@ public final class Heliokeep {
 
         int powerBehind(Mirror mirror, int ticks) {
             if (isCovered(mirror, ticks) || isShaded(mirror, ticks)) return 0;
-            return strengthBehind(ticks) * (10 - haze) * (10 - dirtBehind(mirror, ticks)) * (20 - mirror.distance()) / 20;
+            int clean = 10 - dirtBehind(mirror, ticks);
+            return strengthBehind(ticks) * (10 - haze) * clean * (20 - mirror.distance()) / 20;
         }
 
         int tenthOf(Mirror mirror) {
@@ -674,21 +676,25 @@ public final class Heliokeep {
         /** Returns NONE if no row is lawful. */
         int mostOfAllRows(int[] bounds) {
             int rows = 1;
-            for (int k = 0; k < size; k++) rows *= AIMS;
+            for (int k = 0; k < size; k++) {
+                rows *= AIMS;
+                row[k] = STOWED;
+            }
             int most = NONE;
             for (int number = 0; number < rows; number++) {
-                shineRow(number, 1);
                 if (!light.isAbove(bounds)) most = Math.max(most, light.onPanels());
-                shineRow(number, -1);
+                turnRow();
             }
             return most;
         }
 
-        private void shineRow(int number, int sign) {
-            int rest = number;
-            for (int k = 0; k < size; k++) {
-                shine(k, rest % AIMS + STOWED, sign);
-                rest /= AIMS;
+        // As a counter goes on, the last aim first: behind the last row all are stowed again.
+        private void turnRow() {
+            for (int k = size - 1; k >= 0; k--) {
+                shine(k, row[k], -1);
+                row[k] = row[k] < PANELS - 1 ? row[k] + 1 : STOWED;
+                shine(k, row[k], 1);
+                if (row[k] != STOWED) return;
             }
         }
 

@@ -25,15 +25,21 @@ final class Check {
         due(call, Boolean.valueOf(got), Boolean.valueOf(want));
     }
 
-    /** The very class is due: one that the machine throws, though it is below, is wrong. */
+    /** The very class is due, and thrown by the class itself: one of the machine's or the library's is wrong. */
     static void refuses(String call, Class<?> kind, Runnable run) {
         String got = "no exception";
         try {
             run.run();
         } catch (RuntimeException e) {
-            got = e.getClass().getName();
+            got = nameOf(e);
         }
         due(call + " throws", got, kind.getName());
+    }
+
+    static String nameOf(Throwable e) {
+        StackTraceElement[] trace = e.getStackTrace();
+        boolean isOwn = trace.length > 0 && trace[0].getClassName().startsWith("Heliokeep");
+        return e.getClass().getName() + (isOwn ? "" : " from elsewhere");
     }
 
     static void end(String test) {

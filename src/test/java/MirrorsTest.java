@@ -81,7 +81,9 @@ public final class MirrorsTest {
         x.correct(0, -3);
         x.drift(1, -3);
         x.correct(1, 3);
-        x.pass(6);
+        x.pass(5);
+        Check.refuses("measure(1) just before the sun", Check.STATE, () -> x.measure(1));
+        x.pass(1);
         Check.refuses("measure(0) in the shade", Check.STATE, () -> x.measure(0));
         Check.due("measure(1) beside it", x.measure(1), -6);
         x.haze(9);
@@ -94,6 +96,11 @@ public final class MirrorsTest {
         x.cloud(0, 3, 1, 1, 0, 0);
         Check.refuses("measure(0) below a cloud", Check.STATE, () -> x.measure(0));
         Check.due("measure(1) beside the cloud", x.measure(1), -6);
+        Heliokeep late = Check.plant(17, 3);
+        late.drift(0, 2);
+        Check.due("measure(0) in the hour 17", late.measure(0), 2);
+        late.pass(1);
+        Check.refuses("measure(0) just behind the sun", Check.STATE, () -> late.measure(0));
     }
 
     private static void correct() {

@@ -90,6 +90,13 @@ public final class ReceiverTest {
         x.pass(1);
         Check.due("strain(2), in each tick", x.strain(2), 2);
         Check.due("trips", x.plantIs(10), 2);
+
+        Heliokeep all = Check.plant(11, 3, 2, 4);
+        for (int k = 0; k < 3; k++) all.aim(k, 2 * k);
+        Check.boundAll(all, 0);
+        all.pass(1);
+        for (int panel = 0; panel < 6; panel++) Check.due("all of them, strain(" + panel + ")", all.strain(panel), 1);
+        Check.due("and one trip", all.plantIs(10), 1);
     }
 
     private static void isSafe() {
