@@ -4,6 +4,9 @@ final class Check {
     static final Class<?> ARGUMENT = IllegalArgumentException.class;
     static final Class<?> STATE = IllegalStateException.class;
 
+    /** The strength of the sun in the hours 0 to 23. */
+    static final int[] STRENGTHS = {0, 0, 0, 0, 0, 0, 1, 3, 5, 7, 9, 10, 10, 9, 7, 5, 3, 1, 0, 0, 0, 0, 0, 0};
+
     private static int asked = 0;
     private static int wrong = 0;
 

@@ -1,8 +1,5 @@
 /** Promises 1 to 10. */
 public final class MirrorsTest {
-    private static final int[] STRENGTHS =
-            {0, 0, 0, 0, 0, 0, 1, 3, 5, 7, 9, 10, 10, 9, 7, 5, 3, 1, 0, 0, 0, 0, 0, 0};
-
     public static void main(String[] args) {
         newObject();
         mirror();
@@ -209,7 +206,7 @@ public final class MirrorsTest {
         int[] after = {0, 1, 1, 0, 0, 0};
         x.cloud(0, 0, 1, 1, 0, 0);
         for (int tick = 0; tick < 24; tick++) {
-            boolean low = STRENGTHS[tick] <= 3;
+            boolean low = Check.STRENGTHS[tick] <= 3;
             for (int k = 0; k < 6; k++) {
                 int want = !low ? 0 : tick < 12 ? before[k] : after[k];
                 Check.due("mirrorIs(" + k + ", 6) in the hour " + tick, x.mirrorIs(k, 6), want);
@@ -222,7 +219,7 @@ public final class MirrorsTest {
     private static void power() {
         Heliokeep x = Check.plant(0, 3);
         for (int ticks = 0; ticks < 24; ticks++) {
-            Check.due("power(0, " + ticks + ")", x.power(0, ticks), STRENGTHS[ticks] * 95);
+            Check.due("power(0, " + ticks + ")", x.power(0, ticks), Check.STRENGTHS[ticks] * 95);
         }
         x.pass(11);
         Check.due("power(0, 0) at noon", x.power(0, 0), 950);

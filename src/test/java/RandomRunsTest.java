@@ -1,9 +1,6 @@
-import java.lang.reflect.InvocationTargetException;
-import java.lang.reflect.Method;
 import java.lang.reflect.Modifier;
 import java.util.ArrayList;
 import java.util.Arrays;
-import java.util.Comparator;
 import java.util.List;
 import java.util.Random;
 
@@ -40,10 +37,9 @@ public final class RandomRunsTest {
         int mirrors = random.nextInt(13);
         for (int call = 0; call < CALLS; call++) {
             Object[] row = call < mirrors ? FACE[0] : drawn(random);
-            Object[] told = arguments(row, random, mirrors, seed % 3 == 0);
-            String text = "seed " + seed + ", call " + call + ": " + row[0] + Arrays.toString(told);
-            String want = answer(model, (String) row[0], told).replace(" from elsewhere", "");
-            Check.due(text, answer(x, (String) row[0], told), want);
+            Call drawn = new Call((String) row[0], arguments(row, random, mirrors, seed % 3 == 0));
+            String want = drawn.answer(model).replace(" from elsewhere", "");
+            Check.due("seed " + seed + ", call " + call + ": " + drawn, drawn.answer(x), want);
         }
     }
 
@@ -95,17 +91,5 @@ public final class RandomRunsTest {
         int size = 1 + random.nextInt(4);
         for (int k = 0; k < size; k++) set |= 1 << random.nextInt(Math.max(1, mirrors));
         return set;
-    }
-
-    private static String answer(Object object, String name, Object[] told) {
-        Method method = Arrays.stream(object.getClass().getMethods()).filter(m -> m.getName().equals(name))
-                .min(Comparator.comparing(Method::getName)).orElseThrow();
-        try {
-            return String.valueOf(method.invoke(object, told));
-        } catch (InvocationTargetException e) {
-            return "throws." + Check.nameOf(e.getCause());
-        } catch (IllegalAccessException e) {
-            throw new IllegalStateException(e);
-        }
     }
 }
