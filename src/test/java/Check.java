@@ -73,8 +73,20 @@ final class Check {
         }
     }
 
+    /** The sum, by both ways, and the aims in the set's order; beyond these there is none. */
+    static void dueBest(String state, Heliokeep x, int set, int sum, int... aims) {
+        due(state + ": the sum", x.best(set, Heliokeep.NONE), sum);
+        due(state + ": the sum anew", x.bestAnew(set), sum);
+        for (int k = 0; k < aims.length; k++) due(state + ": the aim " + k, x.best(set, k), aims[k]);
+        refuses(state + ": the aim -2", ARGUMENT, () -> x.best(set, -2));
+        refuses(state + ": no such aim", ARGUMENT, () -> x.best(set, Integer.bitCount(set)));
+    }
+
+    /** Those that are not given are 0. */
     static void dueSums(String state, Heliokeep x, long... want) {
-        for (int what = 0; what < 13; what++) due(state + ": sum(" + what + ")", x.sum(what), want[what]);
+        for (int what = 0; what < 13; what++) {
+            due(state + ": sum(" + what + ")", x.sum(what), what < want.length ? want[what] : 0);
+        }
     }
 
     static void duePlant(String state, Heliokeep x, int... want) {

@@ -409,6 +409,7 @@ public final class MirrorEdgesTest {
                 x.fail(1, true);
                 x.cloud(-7, 4, 2, 1, 1, 0);
                 x.cloud(7, 16, 1, 3, 0, -1);
+                x.cloud(-16, 6, 8, 1, 1, 0);
                 int[] ahead = new int[4];
                 for (int mirror = 0; mirror < 4; mirror++) ahead[mirror] = x.power(mirror, ticks);
                 Check.due("the tick stays", x.plantIs(0), first);

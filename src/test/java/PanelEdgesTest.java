@@ -61,11 +61,11 @@ public final class PanelEdgesTest {
             Heliokeep x = hitting(place);
             x.pass(1);
             int heat = fallen[place + 6];
-            Check.dueSums("the place " + place, x, 950, 950 - heat, 0, heat, heat, 0, 0, 0, 0, 0, 0, 0, 0);
+            Check.dueSums("the place " + place, x, 950, 950 - heat, 0, heat, heat);
             Heliokeep tripped = hitting(place);
             Check.boundAll(tripped, 0);
             tripped.pass(1);
-            Check.dueSums("the place " + place + ", tripped", tripped, 950, 950 - heat, heat, 0, 0, 0, 0, 0, 0, 0, 0, 0, 0);
+            Check.dueSums("the place " + place + ", tripped", tripped, 950, 950 - heat, heat);
             Check.due("a trip by the place " + place, tripped.plantIs(10), heat > 0 ? 1 : 0);
         }
     }
@@ -81,10 +81,10 @@ public final class PanelEdgesTest {
         x.cloud(1, 3, 1, 1, 0, 0);
         Check.dueFluxes("stowed, and covered", x, 0, 0, 0, 0, 0, 0);
         x.pass(1);
-        Check.dueSums("stowed, and covered", x, 0, 0, 0, 0, 0, 0, 0, 0, 0, 0, 0, 0, 0);
+        Check.dueSums("stowed, and covered", x);
         x.clear();
         x.pass(1);
-        Check.dueSums("all is missed", x, 900, 900, 0, 0, 0, 0, 0, 0, 0, 0, 0, 0, 0);
+        Check.dueSums("all is missed", x, 900, 900);
         Check.due("kept() without heat", x.kept(), 0.0f);
     }
 
@@ -122,6 +122,7 @@ public final class PanelEdgesTest {
             x.pass(1);
             Check.due("trips by a flux of " + (3000 + 10 * k), x.plantIs(10), k);
             Check.due("strain(2)", x.strain(2), k);
+            for (int panel = 0; panel < 6; panel++) Check.due("the bound at first", x.bound(panel, 0), 3000);
         }
     }
 
@@ -154,7 +155,7 @@ public final class PanelEdgesTest {
         x.bound(5, 9999);
         x.pass(1);
         Check.due("no trip", x.plantIs(10), 0);
-        Check.dueSums("two of ten missed", x, 10 * tenths, 2 * tenths, 0, 8 * tenths, 8 * tenths, 0, 0, 0, 0, 0, 0, 0, 0);
+        Check.dueSums("two of ten missed", x, 10 * tenths, 2 * tenths, 0, 8 * tenths, 8 * tenths);
         x.bound(5, 6 * tenths - 1);
         x.pass(1);
         Check.due("a trip", x.plantIs(10), 1);
@@ -226,14 +227,6 @@ public final class PanelEdgesTest {
         Check.due("an empty field", new Heliokeep().isSafe(), true);
     }
 
-    private static void dueBest(String state, Heliokeep x, int set, int sum, int... aims) {
-        Check.due(state + ": the sum", x.best(set, Heliokeep.NONE), sum);
-        Check.due(state + ": the sum anew", x.bestAnew(set), sum);
-        for (int k = 0; k < aims.length; k++) Check.due(state + ": the aim " + k, x.best(set, k), aims[k]);
-        Check.refuses(state + ": the aim -2", Check.ARGUMENT, () -> x.best(set, -2));
-        Check.refuses(state + ": no such aim", Check.ARGUMENT, () -> x.best(set, Integer.bitCount(set)));
-    }
-
     /** A set has 1 to 4 MIRRORS, and none that isn't there. */
     private static void bestOfSetsOfAllSizes() {
         Heliokeep x = Check.plant(11, 3, 11, 19, 27, 35);
@@ -271,15 +264,18 @@ public final class PanelEdgesTest {
         x.drift(10, 2);
         x.drift(9, -1);
         x.drift(8, -2);
-        dueBest("the last four", x, 15 << 8, 850 + 3 * 800, 3, 2, 0, 0);
-        dueBest("the last one", x, 1 << 11, 800, 0);
-        dueBest("the first and the last one", x, 1 + (1 << 11), 950 + 800, 1, 0);
+        Check.dueBest("the last four", x, 15 << 8, 850 + 3 * 800, 3, 2, 0, 0);
+        Check.dueBest("the last one", x, 1 << 11, 800, 0);
+        Check.dueBest("the first and the last one", x, 1 + (1 << 11), 950 + 800, 1, 0);
         Check.refuses("one beyond", Check.ARGUMENT, () -> x.best(1 << 12, Heliokeep.NONE));
         Check.refuses("one beyond, with the last one", Check.ARGUMENT, () -> x.bestAnew(3 << 11));
         x.fail(10, true);
         Check.refuses("a broken one", Check.ARGUMENT, () -> x.best(1 << 10, Heliokeep.NONE));
         Check.refuses("with a broken one", Check.ARGUMENT, () -> x.bestAnew(15 << 8));
-        dueBest("without the broken one", x, 11 << 8, 850 + 2 * 800, 3, 2, 0);
+        Check.dueBest("without the broken one", x, 11 << 8, 850 + 2 * 800, 3, 2, 0);
+        x.fail(0, true);
+        Check.refuses("the first one, broken", Check.ARGUMENT, () -> x.best(1, Heliokeep.NONE));
+        Check.refuses("with the first one, broken", Check.ARGUMENT, () -> x.bestAnew(1 + (1 << 11)));
     }
 
     /** STOWED is ahead of all PANELS: a MIRROR without light is STOWED, as is one that has none to add. */
@@ -287,51 +283,51 @@ public final class PanelEdgesTest {
         int stowed = Heliokeep.STOWED;
         Heliokeep x = Check.plant(0, 3, 11, 19, 27);
         for (int mirror = 0; mirror < 4; mirror++) x.aim(mirror, mirror);
-        dueBest("by night", x, 15, 0, stowed, stowed, stowed, stowed);
+        Check.dueBest("by night", x, 15, 0, stowed, stowed, stowed, stowed);
         x.pass(11);
         x.cloud(1, 3, 1, 1, 0, 0);
-        dueBest("one below a cloud", x, 3, 950 + 850 + 800, 1, stowed);
+        Check.dueBest("one below a cloud", x, 3, 950 + 850 + 800, 1, stowed);
         x.drift(0, 3);
         x.correct(0, -3);
         x.bound(5, 0);
         x.aim(2, stowed);
         x.aim(3, stowed);
-        dueBest("no aim brings it to a panel that may have light", x, 1, 0, stowed);
+        Check.dueBest("no aim brings it to a panel that may have light", x, 1, 0, stowed);
         Check.boundAll(x, 0);
-        dueBest("no panel may have light", x, 15, 0, stowed, stowed, stowed, stowed);
+        Check.dueBest("no panel may have light", x, 15, 0, stowed, stowed, stowed, stowed);
         x.clear();
         x.aim(0, stowed);
         x.bound(4, 180);
         x.bound(5, 540);
-        dueBest("room for one", x, 2, 720, 5);
+        Check.dueBest("room for one", x, 2, 720, 5);
         x.bound(5, 539);
-        dueBest("no room", x, 2, 0, stowed);
+        Check.dueBest("no room", x, 2, 0, stowed);
     }
 
     /** Of several best ones it is the first: by the aim of the lowest MIRROR of them, then of the next one. */
     private static void bestIsTheFirstOfSeveral() {
         int stowed = Heliokeep.STOWED;
         Heliokeep x = Check.plant(11, 2, 4, 11);
-        dueBest("all alike", x, 7, 2700, 1, 1, 1);
+        Check.dueBest("all alike", x, 7, 2700, 1, 1, 1);
         Check.boundAll(x, 0);
         x.bound(3, 180);
         x.bound(4, 540);
         x.bound(5, 180);
-        dueBest("room for one of three alike", x, 7, 900, stowed, stowed, 4);
-        dueBest("room for one of two alike", x, 5, 900, stowed, 4);
+        Check.dueBest("room for one of three alike", x, 7, 900, stowed, stowed, 4);
+        Check.dueBest("room for one of two alike", x, 5, 900, stowed, 4);
         x.bound(0, 540);
         x.bound(1, 180);
-        dueBest("two places, of which one is better", x, 7, 1620, stowed, 0, 4);
+        Check.dueBest("two places, of which one is better", x, 7, 1620, stowed, 0, 4);
         x.bound(2, 180);
         x.bound(1, 540);
         x.bound(0, 180);
         x.bound(3, 180);
-        dueBest("two places alike", x, 7, 1800, stowed, 1, 4);
-        dueBest("two for two of them", x, 3, 1800, 1, 4);
+        Check.dueBest("two places alike", x, 7, 1800, stowed, 1, 4);
+        Check.dueBest("two for two of them", x, 3, 1800, 1, 4);
         x.drift(0, 1);
-        dueBest("two for two, one of which errs", x, 3, 1800, 0, 4);
+        Check.dueBest("two for two, one of which errs", x, 3, 1800, 0, 4);
         x.drift(0, -2);
-        dueBest("the other way", x, 3, 1800, 2, 4);
+        Check.dueBest("the other way", x, 3, 1800, 2, 4);
     }
 
     /** Lawful is a FLUX up to the BOUND, on each PANEL, with the light of the others. */
@@ -343,15 +339,15 @@ public final class PanelEdgesTest {
             if (panel > 0) x.bound(panel - 1, 190);
             if (panel < 5) x.bound(panel + 1, 190);
             x.bound(panel, 570);
-            dueBest("just room on the panel " + panel, x, 1, whole[panel], panel);
+            Check.dueBest("just room on the panel " + panel, x, 1, whole[panel], panel);
             x.bound(panel, 569);
-            dueBest("too little on the panel " + panel, x, 1, 0, Heliokeep.STOWED);
+            Check.dueBest("too little on the panel " + panel, x, 1, 0, Heliokeep.STOWED);
             x.bound(panel, 570);
             int beside = panel > 0 ? panel - 1 : 1;
             x.bound(beside, 189);
-            dueBest("too little beside the panel " + panel, x, 1, 0, Heliokeep.STOWED);
+            Check.dueBest("too little beside the panel " + panel, x, 1, 0, Heliokeep.STOWED);
             x.bound(beside, 190);
-            dueBest("for the second one", x, 3, whole[panel], panel, Heliokeep.STOWED);
+            Check.dueBest("for the second one", x, 3, whole[panel], panel, Heliokeep.STOWED);
         }
     }
 
@@ -361,17 +357,17 @@ public final class PanelEdgesTest {
         x.aim(1, 4);
         x.bound(4, 540);
         x.fail(1, true);
-        dueBest("beside a broken one", x, 1, 900 + 950, 1);
+        Check.dueBest("beside a broken one", x, 1, 900 + 950, 1);
         x.bound(1, 0);
         x.bound(2, 0);
-        dueBest("little room beside a broken one", x, 1, 900, Heliokeep.STOWED);
+        Check.dueBest("little room beside a broken one", x, 1, 900, Heliokeep.STOWED);
         x.bound(4, 730);
         x.bound(5, 180 + 570);
-        dueBest("just room", x, 1, 900 + 760, 5);
+        Check.dueBest("just room", x, 1, 900 + 760, 5);
         x.bound(4, 729);
-        dueBest("just too little", x, 1, 900, Heliokeep.STOWED);
+        Check.dueBest("just too little", x, 1, 900, Heliokeep.STOWED);
         x.bound(4, 540);
-        dueBest("the others at their bound", x, 5, 900, Heliokeep.STOWED, Heliokeep.STOWED);
+        Check.dueBest("the others at their bound", x, 5, 900, Heliokeep.STOWED, Heliokeep.STOWED);
         x.bound(4, 539);
         Check.refuses("the others above it", Check.STATE, () -> x.best(5, Heliokeep.NONE));
         Check.refuses("the others above it, an aim", Check.STATE, () -> x.best(5, 1));
@@ -379,7 +375,7 @@ public final class PanelEdgesTest {
         Check.refuses("no such aim, the others above it", Check.ARGUMENT, () -> x.best(5, 2));
         Check.refuses("a broken one, above it", Check.ARGUMENT, () -> x.bestAnew(7));
         x.cloud(1, 3, 1, 1, 0, 0);
-        dueBest("the others below a cloud", x, 1, 760, 5);
+        Check.dueBest("the others below a cloud", x, 1, 760, 5);
     }
 
     /** What the MIRRORS of the set aim at now doesn't matter: they may be above a BOUND. */
@@ -389,11 +385,11 @@ public final class PanelEdgesTest {
         x.aim(0, 2);
         x.aim(1, 2);
         Check.refuses("the other one is above it", Check.STATE, () -> x.best(1, Heliokeep.NONE));
-        dueBest("both", x, 3, 950 + 900, 1, 4);
+        Check.dueBest("both", x, 3, 950 + 900, 1, 4);
         x.aim(1, 5);
-        dueBest("the other one is not", x, 1, 720 + 950, 1);
+        Check.dueBest("the other one is not", x, 1, 720 + 950, 1);
         x.bound(2, 0);
-        dueBest("no light for that one", x, 1, 720 + 950, 4);
+        Check.dueBest("no light for that one", x, 1, 720 + 950, 4);
     }
 
     /** A row is good for what falls on panels: what is missed adds nothing. */
@@ -406,7 +402,7 @@ public final class PanelEdgesTest {
             Heliokeep x = Check.plant(11, 3);
             x.drift(0, errors[k]);
             x.correct(0, corrections[k]);
-            dueBest("off by " + (errors[k] - corrections[k]), x, 1, sums[k], aims[k]);
+            Check.dueBest("off by " + (errors[k] - corrections[k]), x, 1, sums[k], aims[k]);
         }
     }
 

@@ -8,6 +8,9 @@ import java.util.Random;
 public final class RandomRunsTest {
     private static final int RUNS = 400, CALLS = 512;
 
+    /** So many times 48 ticks, and the last tick is near. */
+    private static final int ALMOST_ALL = 206;
+
     /** For each method how often it is called, and the least and the most of each of its numbers. */
     private static final Object[][] FACE = {
         {"mirror", 6, 0, 63}, {"drift", 8, 0, 11, -6, 6}, {"measure", 5, 0, 11}, {"correct", 6, 0, 11, -3, 3},
@@ -35,9 +38,11 @@ public final class RandomRunsTest {
         Heliokeep x = new Heliokeep();
         PlainModel model = new PlainModel();
         int mirrors = random.nextInt(13);
+        int passes = seed % 10 == 9 ? ALMOST_ALL : 0;
         for (int call = 0; call < CALLS; call++) {
             Object[] row = call < mirrors ? FACE[0] : drawn(random);
             Call drawn = new Call((String) row[0], arguments(row, random, mirrors, seed % 3 == 0));
+            if (call >= mirrors && call < mirrors + passes) drawn = new Call("pass", 48);
             String want = drawn.answer(model).replace(" from elsewhere", "");
             Check.due("seed " + seed + ", call " + call + ": " + drawn, drawn.answer(x), want);
         }

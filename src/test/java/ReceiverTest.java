@@ -160,63 +160,57 @@ public final class ReceiverTest {
         Check.due("by night", x.isSafe(), true);
     }
 
-    private static void dueBest(String state, Heliokeep x, int set, int sum, int... aims) {
-        Check.due(state + ": the sum", x.best(set, Heliokeep.NONE), sum);
-        Check.due(state + ": the sum anew", x.bestAnew(set), sum);
-        for (int k = 0; k < aims.length; k++) Check.due(state + ": the aim " + k, x.best(set, k), aims[k]);
-    }
-
     private static void bestOfOne() {
         Heliokeep x = Check.plant(0, 3);
-        dueBest("by night", x, 1, 0, Heliokeep.STOWED);
+        Check.dueBest("by night", x, 1, 0, Heliokeep.STOWED);
         x.pass(11);
-        dueBest("at noon", x, 1, 950, 1);
+        Check.dueBest("at noon", x, 1, 950, 1);
         x.drift(0, 1);
-        dueBest("with an error", x, 1, 950, 0);
+        Check.dueBest("with an error", x, 1, 950, 0);
         x.drift(0, 2);
         x.correct(0, -3);
-        dueBest("far too high", x, 1, 190, 0);
+        Check.dueBest("far too high", x, 1, 190, 0);
         x.drift(0, -6);
         x.correct(0, 3);
-        dueBest("far too low", x, 1, 190, 5);
+        Check.dueBest("far too low", x, 1, 190, 5);
         x.correct(0, -3);
         x.bound(0, 570);
         x.bound(1, 189);
         x.bound(2, 190);
         x.bound(3, 570);
         x.bound(4, 189);
-        dueBest("just above", x, 1, 0, Heliokeep.STOWED);
+        Check.dueBest("just above", x, 1, 0, Heliokeep.STOWED);
         x.bound(4, 190);
-        dueBest("just within", x, 1, 950, 3);
+        Check.dueBest("just within", x, 1, 950, 3);
         x.bound(3, 569);
-        dueBest("below the second bound", x, 1, 760, 5);
+        Check.dueBest("below the second bound", x, 1, 760, 5);
         x.bound(5, 569);
-        dueBest("nowhere", x, 1, 0, Heliokeep.STOWED);
+        Check.dueBest("nowhere", x, 1, 0, Heliokeep.STOWED);
         Check.due("the aim stays", x.mirrorIs(0, 2), Heliokeep.STOWED);
     }
 
     private static void bestOfSeveral() {
         Heliokeep x = Check.plant(11, 2, 4, 19, 60);
         Check.boundAll(x, 540);
-        dueBest("apart", x, 3, 1800, 1, 3);
+        Check.dueBest("apart", x, 3, 1800, 1, 3);
         Check.boundAll(x, 0);
         x.bound(0, 180);
         x.bound(1, 540);
         x.bound(2, 180);
-        dueBest("one of two alike", x, 3, 900, Heliokeep.STOWED, 1);
+        Check.dueBest("one of two alike", x, 3, 900, Heliokeep.STOWED, 1);
         x.drift(0, 3);
         x.correct(0, -3);
         x.drift(2, -3);
         x.correct(2, 3);
         Check.boundAll(x, 3000);
-        dueBest("by their numbers", x, 5, 180 + 170, 0, 5);
-        dueBest("by their numbers, others", x, 10, 900 + 550, 1, 1);
-        dueBest("all four", x, 15, 180 + 900 + 170 + 550, 0, 1, 5, 1);
+        Check.dueBest("by their numbers", x, 5, 180 + 170, 0, 5);
+        Check.dueBest("by their numbers, others", x, 10, 900 + 550, 1, 1);
+        Check.dueBest("all four", x, 15, 180 + 900 + 170 + 550, 0, 1, 5, 1);
         Check.boundAll(x, 400);
-        dueBest("all four, with little room", x, 15, x.bestAnew(15));
-        dueBest("two with little room", x, 10, x.bestAnew(10));
+        Check.dueBest("all four, with little room", x, 15, x.bestAnew(15));
+        Check.dueBest("two with little room", x, 10, x.bestAnew(10));
         x.cloud(0, 4, 1, 1, 0, 0);
-        dueBest("one below a cloud", x, 2, 0, Heliokeep.STOWED);
+        Check.dueBest("one below a cloud", x, 2, 0, Heliokeep.STOWED);
     }
 
     private static void bestWithOthers() {
@@ -225,11 +219,11 @@ public final class ReceiverTest {
         x.aim(2, 1);
         Check.boundAll(x, 570);
         Check.dueFluxes("without it", x, 190, 570, 190, 0, 180, 540);
-        dueBest("beside two others", x, 2, 950 + 720 + 900, 3);
+        Check.dueBest("beside two others", x, 2, 950 + 720 + 900, 3);
         x.bound(1, 569);
         Check.refuses("best above a bound", Check.STATE, () -> x.best(2, Heliokeep.NONE));
         Check.refuses("bestAnew above a bound", Check.STATE, () -> x.bestAnew(2));
-        dueBest("the one above it", x, 4, x.bestAnew(4));
+        Check.dueBest("the one above it", x, 4, x.bestAnew(4));
         x.fail(0, true);
         Check.refuses("best, above a bound, with a broken one", Check.ARGUMENT, () -> x.best(3, Heliokeep.NONE));
         Check.refuses("bestAnew, above a bound, with a broken one", Check.ARGUMENT, () -> x.bestAnew(3));
@@ -246,7 +240,7 @@ public final class ReceiverTest {
         Check.refuses("best(3, -2)", Check.ARGUMENT, () -> x.best(3, -2));
         Check.refuses("best(3, 2)", Check.ARGUMENT, () -> x.best(3, 2));
         Check.refuses("best(30, 4)", Check.ARGUMENT, () -> x.best(30, 4));
-        dueBest("four of five", x, 30, 900 + 850 + 550 + 450, 1, 1, 1, 1);
+        Check.dueBest("four of five", x, 30, 900 + 850 + 550 + 450, 1, 1, 1, 1);
         x.fail(2, true);
         Check.refuses("best(4, NONE), broken", Check.ARGUMENT, () -> x.best(4, Heliokeep.NONE));
         Check.refuses("bestAnew(12), broken", Check.ARGUMENT, () -> x.bestAnew(12));

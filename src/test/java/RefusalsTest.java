@@ -1,6 +1,6 @@
 /**
  * Each number that a call is told: the last value that is allowed and the first one that isn't, on both sides; of
- * several exceptions the one that is listed first; and that a refused call changes nothing.
+ * several exceptions the one that is listed first; and that a refused call changes nothing, nor does asking.
  */
 public final class RefusalsTest {
     /** Stand for the last mirror of the plant, and for the set of all its mirrors. */
@@ -113,7 +113,23 @@ public final class RefusalsTest {
             changesNothing(row.plant(), row.call(), Check.ARGUMENT);
             refusesBeyond(row.plant(), row);
         }
+        for (Plant plant : Plant.values()) askingChangesNothing(plant);
         Check.end("RefusalsTest");
+    }
+
+    private static void askingChangesNothing(Plant plant) {
+        Heliokeep x = plant.make();
+        x.isSafe();
+        x.kept();
+        for (int panel = 0; panel < 6; panel++) Check.due("fluxAnew", x.fluxAnew(panel), x.flux(panel));
+        for (int mirror = 0; mirror < plant.mirrors(); mirror++) {
+            x.power(mirror, 24);
+            new Call("measure", mirror).answer(x);
+            new Call("best", 1 << mirror, 0).answer(x);
+            new Call("bestAnew", (1 << mirror) + 1).answer(x);
+        }
+        String difference = Whole.firstDifference(Whole.of(x, plant.mirrors()), plant.untouched());
+        Check.due(plant + ", asked: what has changed", difference, "none");
     }
 
     private static Range argument(int least, int most) {

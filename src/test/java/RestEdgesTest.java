@@ -108,7 +108,9 @@ public final class RestEdgesTest {
     /** TRACE heating takes 2 whatever the pipe is, and of nothing at once. */
     private static void traceByItself() {
         Heliokeep x = new Heliokeep();
+        Check.due("plantIs(6) at first", x.plantIs(6), 0);
         Check.due("at first", x.trace(true), false);
+        Check.due("plantIs(6)", x.plantIs(6), 1);
         Check.due("nothing taken yet", x.sum(7), 0);
         x.pass(1);
         Check.due("empty", x.sum(7), 2);
@@ -231,6 +233,11 @@ public final class RestEdgesTest {
         Check.due("fail(1, false) again", x.fail(1, false), false);
         Check.due("aim(1, 5)", x.aim(1, 5), Heliokeep.STOWED);
         Check.due("aim(1, 5) again", x.aim(1, 5), 5);
+        for (boolean is : new boolean[] {true, true, false, false}) {
+            x.fail(1, is);
+            Check.due("the aim stays", x.mirrorIs(1, 2), 5);
+            Check.due("whether it is broken", x.mirrorIs(1, 4), is ? 1 : 0);
+        }
     }
 
     /** 0.0f without HEAT, and with all of it DUMPED; 1.0f with none; floats are divided. */

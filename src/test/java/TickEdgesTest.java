@@ -1,3 +1,5 @@
+import java.util.List;
+
 /** The edges that the part "A tick" names, step by step, and those of promise 29. */
 public final class TickEdgesTest {
     public static void main(String[] args) {
@@ -68,7 +70,7 @@ public final class TickEdgesTest {
         x.bound(0, 0);
         x.pass(1);
         int[] aims = {0, Heliokeep.STOWED, Heliokeep.STOWED, Heliokeep.STOWED};
-        for (int mirror = 0; mirror < 4; mirror++) Check.due("the aim of " + mirror, x.mirrorIs(mirror, 2), aims[mirror]);
+        for (int mirror = 0; mirror < 4; mirror++) Check.due("the aim " + mirror, x.mirrorIs(mirror, 2), aims[mirror]);
         Check.due("what was missed", x.sum(1), 660 * 2 / 10 + 590);
         x.aim(1, 3);
         x.pass(3);
@@ -383,7 +385,8 @@ public final class TickEdgesTest {
             {20, 0, 200, 99, 200, 0, 0, 200, 0, 0, 0}, {20, 0, 199, 99, 200, 0, 0, 199, 0, 1, 99},
             {20, 1, 200, 99, 200, 2, 0, 198, 2, 0, 0}, {20, 0, 0, 99, 200, 0, 0, 0, 0, 200, 19800},
             {20, 1, 0, 99, 200, 2, 0, 0, 0, 198, 19602}, {1, 1, 8, 1, 10, 2, 0, 8, 0, 0, 0},
-            {1, 1, 7, 1, 10, 2, 0, 7, 0, 1, 1}, {1, 1, 9, 1, 10, 2, 0, 8, 1, 0, 0}, {1, 0, 200, 1, 10, 0, 0, 10, 190, 0, 0},
+            {1, 1, 7, 1, 10, 2, 0, 7, 0, 1, 1}, {1, 1, 9, 1, 10, 2, 0, 8, 1, 0, 0},
+            {1, 0, 200, 1, 10, 0, 0, 10, 190, 0, 0},
             {0, 0, 0, 5, 0, 0, 0, 0, 0, 0, 0}, {0, 0, 1, 5, 0, 0, 0, 0, 1, 0, 0}, {0, 1, 0, 5, 0, 2, 2, 0, 0, 0, 0},
             {0, 1, 200, 5, 0, 2, 2, 0, 200, 0, 0}};
         for (int[] row : rows) {
@@ -473,7 +476,8 @@ public final class TickEdgesTest {
             Heliokeep single = plant.make();
             many.pass(48);
             for (int k = 0; k < 48; k++) single.pass(1);
-            String difference = Whole.firstDifference(Whole.of(many, plant.mirrors()), Whole.of(single, plant.mirrors()));
+            List<String> due = Whole.of(single, plant.mirrors());
+            String difference = Whole.firstDifference(Whole.of(many, plant.mirrors()), due);
             Check.due(plant + ": 48 ticks, or one after the other", difference, "none");
         }
     }

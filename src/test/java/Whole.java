@@ -58,7 +58,9 @@ final class Whole {
             note("price and firm amount of the hour " + hour, price + ", " + firm);
         }
         for (int mirror = 0; mirror < mirrors; mirror++) {
-            for (int what = 0; what < 8; what++) note("mirrorIs(" + mirror + ", " + what + ")", x.mirrorIs(mirror, what));
+            for (int what = 0; what < 8; what++) {
+                note("mirrorIs(" + mirror + ", " + what + ")", x.mirrorIs(mirror, what));
+            }
         }
     }
 
