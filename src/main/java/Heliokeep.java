@@ -550,8 +550,10 @@ public final class Heliokeep {
             return mirrors.size() - 1;
         }
 
+        // Ticks are never below 0: the hour is looked at all the same, as rows are read by it.
         int hourBehind(int ticks) {
-            return (tick + ticks) % HOURS;
+            int hour = (tick + ticks) % HOURS;
+            return hour < 0 ? 0 : hour;
         }
 
         int strengthBehind(int ticks) {
